@@ -223,7 +223,7 @@ public final class LowWater {
         }
         int bits = 0;
         for (int from = 0; from < CELLS; from++) {
-            if (placeToday(kind, from, hours) == cell) {
+            if (placeNow(kind, from, hours) == cell) {
                 bits |= 1 << from;
             }
         }
@@ -433,7 +433,7 @@ public final class LowWater {
     }
 
     /** Where one of a KIND lies now that lay in a CELL so many hours ago. */
-    private int placeToday(int kind, int from, int hours) {
+    private int placeNow(int kind, int from, int hours) {
         int place = from;
         for (int hour = now.hour - hours; hour < now.hour; hour++) {
             place = ground.drifted(kind, place, hour, now.barge);
@@ -871,7 +871,7 @@ public final class LowWater {
             }
             int most = NONE;
             for (int to = cell - 1; to <= cell + 1; to++) {
-                int worth = walked(1, to, lying[cell]);
+                int worth = walked(this, 1, to, lying[cell]);
                 if (worth > most) {
                     most = worth;
                     first = to;
@@ -881,17 +881,17 @@ public final class LowWater {
         }
 
         /** Each call is an hour later, so the last hour (7 at most) bounds the depth. */
-        private int walked(int hour, int cell, int takenBefore) {
-            if (hour < 0 || hour > last || !isCell(cell) || !dry[hour * CELLS + cell]) {
+        private static int walked(Child child, int hour, int cell, int takenBefore) {
+            if (hour < 0 || hour > child.last || !isCell(cell) || !child.dry[hour * CELLS + cell]) {
                 return NONE;
             }
-            int taken = takenBefore | lying[hour * CELLS + cell];
-            if (hour == last) {
-                return stairs[cell] ? worthOf(taken) : NONE;
+            int taken = takenBefore | child.lying[hour * CELLS + cell];
+            if (hour == child.last) {
+                return child.stairs[cell] ? child.worthOf(taken) : NONE;
             }
             int most = NONE;
             for (int to = cell - 1; to <= cell + 1; to++) {
-                most = Math.max(most, walked(hour + 1, to, taken));
+                most = Math.max(most, walked(child, hour + 1, to, taken));
             }
             return most;
         }

@@ -235,6 +235,13 @@ public final class ShoreTest {
         Check.due("8 LEVEL 1 at height 2", x.cell(4, 2), 0);
         Check.due("8 LEVEL 2 at height 2", x.cell(5, 2), 1);
         Check.due("8 it stays", x.barge(4), 4);
+        LowWater high = Check.shore("99999999;0;78");
+        high.barge(4);
+        Check.due("8 2 less, no more", high.cell(4, 2), 1);
+        high.hour();
+        Check.due("8 2 less at height 8", high.cell(4, 2), 0);
+        Check.due("8 1 less at height 8", high.cell(3, 2), 1);
+        Check.due("8 1 less above at height 8", high.cell(5, 2), 1);
         Check.refused("8 cell -2", x, Check.UNKNOWN, o -> o.barge(-2));
         Check.refused("8 cell 8", x, Check.UNKNOWN, o -> o.barge(8));
         Check.due("8 UNKNOWN ahead of STATE", new LowWater().barge(8), Check.UNKNOWN);
@@ -290,6 +297,10 @@ public final class ShoreTest {
         drift("00003300;0;34", 3, 4, 5, 3, 3, 6);
         drift("00002000;0;32", 6, 5, 4, 5, 6, 4);
         drift("00001000;0;32", 6, 5, 4, 5, 6, 3);
+        drift("00000300;0;232", 4, 5, 5, 4, 4, 5);
+        drift("00000300;0;234", 4, 5, 5, 4, 4, 5);
+        drift("00020000;0;323", 4, 3, 3, 3, 4, 3);
+        drift("00020000;0;321", 4, 3, 3, 3, 4, 3);
         LowWater scoured = Check.shore("00000500;0;34");
         scoured.barge(5);
         scoured.thing(4, 3, 1);

@@ -40,6 +40,15 @@ public final class WholeTest {
         Check.due("25 once more", x.restore(), 1);
         Check.due("25 all as it was, once more", x.digest(), before);
         Check.due("25 the hour of the MARKS", x.fits(), full().fits());
+        LowWater y = Check.shore("00000000;0;121");
+        y.mark(1, 3);
+        y.then(2);
+        y.image();
+        y.mark(0, 3);
+        y.then(2);
+        Check.due("25 MARKS of another hour", y.fits(), 0);
+        y.restore();
+        Check.due("25 the hour in which MARKS begin", y.fits(), 1 + 4);
         x.hour();
         long later = x.digest();
         Check.due("24 the latest", x.image(), 2);
@@ -69,6 +78,7 @@ public final class WholeTest {
         }
         Check.refused("25 another SHORE, as many THINGS", x, Check.STATE, LowWater::restore);
         LowWater bare = Check.shore("20415263;36;25");
+        Check.refused("25 none was kept, no THINGS", bare, Check.STATE, LowWater::restore);
         bare.image();
         Check.write(bare, "20415263;36;25");
         bare.shore();
@@ -153,13 +163,23 @@ public final class WholeTest {
     }
 
     private static void digest() {
-        LowWater x = full();
+        LowWater fitted = full();
+        digestOf("no KIND fits", fitted);
+        fitted.mark(1, 4);
+        digestOf("all KINDS fit", fitted);
+        fitted.then(4);
+        digestOf("some fit", fitted);
+        digestOfAllStairs();
+    }
+
+    /** Of what full() made, with other MARKS. */
+    private static void digestOf(String what, LowWater x) {
         Check.write(x, "zy");
         int[] heights = {2, 5, 0, 7};
         long h = 691;
         for (int c = 0; c < 8; c++) {
-            for (int what = 0; what < 4; what++) {
-                h = 31 * h + x.cell(c, what);
+            for (int i = 0; i < 4; i++) {
+                h = 31 * h + x.cell(c, i);
             }
         }
         for (int height : heights) {
@@ -168,16 +188,20 @@ public final class WholeTest {
         h = 31 * h + 2;
         h = 31 * h + x.newStair();
         for (int t = 0; t < 3; t++) {
-            for (int what = 0; what < 4; what++) {
-                h = 31 * h + x.about(t, what);
+            for (int i = 0; i < 4; i++) {
+                h = 31 * h + x.about(t, i);
             }
         }
         h = 31 * h + x.fits();
         h = (31 * h + 'z') * 31 + 'y';
-        for (int what = 0; what < 10; what++) {
-            h = 31 * h + x.count(what);
+        for (int i = 0; i < 10; i++) {
+            h = 31 * h + x.count(i);
         }
-        Check.due("27 of all", x.digest(), h);
+        Check.due("27 " + what, x.digest(), h);
+        x.blank();
+    }
+
+    private static void digestOfAllStairs() {
         LowWater all = Check.shore("00000000;01234567;12");
         long bare = 691;
         for (int c = 0; c < 8; c++) {

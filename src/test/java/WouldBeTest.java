@@ -90,6 +90,14 @@ public final class WouldBeTest {
         best("an hour later, an hour", ebb, 2, 1, 0, 1);
         best("an hour later, two", ebb, 2, 2, 9, 3);
         best("an hour later, WET in the end", ebb, 2, 7, -1, -1);
+        LowWater left = Check.shore("00002999;34;0120");
+        left.thing(0, 3, 9);
+        best("it lies there", left, 3, 0, 9, 3);
+        left.hour();
+        left.hour();
+        left.hour();
+        best("it lies there no more", left, 3, 0, 0, 3);
+        best("it lies there now", left, 4, 0, 9, 4);
         LowWater taken = Check.shore("90000000;0;00");
         taken.thing(0, 0, 9);
         taken.take(0);

@@ -5,14 +5,21 @@ final class Check {
     private static int rows = 0;
     private static int wrong = 0;
 
+    /** The name of the test that runs, if it has one. */
+    private static String test = "";
+
     private Check() {
+    }
+
+    static void begin(String name) {
+        test = name + ", ";
     }
 
     static void due(String what, long got, long want) {
         rows++;
         if (got != want) {
             wrong++;
-            System.out.println(what + ": answered " + got + ", due is " + want);
+            System.out.println(test + what + ": answered " + got + ", due is " + want);
         }
     }
 

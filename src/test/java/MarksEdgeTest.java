@@ -193,6 +193,24 @@ public final class MarksEdgeTest {
         Check.due("do not go", fits("00010000;0;12", 0, 3, 4), 0);
     }
 
+    static void promise22_BARGE_as_it_is() {
+        LowWater x = Check.shore("00020000;0;12");
+        x.mark(0, 1);
+        x.then(3);
+        Check.due("over none", x.fits(), CORK + BOTTLE);
+        x.barge(3);
+        Check.due("there, a BOTTLE does not stop", x.fits(), CORK);
+        x.barge(2);
+        Check.due("beside, a BOTTLE does not stop", x.fits(), CORK);
+        x.barge(5);
+        Check.due("two off", x.fits(), CORK + BOTTLE);
+    }
+
+    static void promise22_changes_nothing() {
+        State.BUSY.answers("fits", LowWater::fits);
+        State.FULL.answers("fits", LowWater::fits);
+    }
+
     // ---- 23 days
 
     static void promise23_refusals_in_their_order() {

@@ -676,6 +676,13 @@ public final class ShoreEdgeTest {
         drift("00001000;0;1213", 3, 4, 5, 3, 3, 6, 3);
     }
 
+    static void promise09_it_does_not_stop_in_one_that_is_DRY_in_an_hour_after_the_next() {
+        drift("00001000;0;321", 6, 5, 4, 5, 6, 3, 4);
+        drift("00002000;0;321", 6, 5, 4, 5, 6, 4, 4);
+        drift("00001000;0;231", 3, 4, 5, 3, 3, 6, 3);
+        drift("00002000;0;332", 6, 6, 6, 6, 6, 6, 0);
+    }
+
     static void promise09_it_stops_in_0_if_that_is_DRY() {
         drift("10000000;0;21", 1, 0, 0, 0, 1, 0, 4);
         drift("10000000;0;21", 2, 1, 0, 1, 2, 0, 4);
@@ -706,6 +713,19 @@ public final class ShoreEdgeTest {
         y.barge(5);
         y.hour();
         Check.due("beside", y.about(0, 1), 6);
+    }
+
+    static void promise09_it_stops_where_THE_BARGE_leaves_it_DRY_by_EBB() {
+        LowWater x = Check.shore("00002000;0;32");
+        x.thing(4, 6, 1);
+        x.barge(2);
+        x.hour();
+        Check.due("two off", x.about(0, 1), 4);
+        LowWater y = Check.shore("00002000;0;32");
+        y.thing(4, 6, 1);
+        y.barge(3);
+        y.hour();
+        Check.due("beside", y.about(0, 1), 3);
     }
 
     static void promise09_THE_BARGE_makes_it_WET_in_this_hour() {

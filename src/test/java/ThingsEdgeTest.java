@@ -345,6 +345,15 @@ public final class ThingsEdgeTest {
         Check.due("the greater", x.share(6), 0);
     }
 
+    static void promise14_a_nearer_CELL_without_STAIR_has_no_share() {
+        LowWater x = Check.shore("00000000;35;00");
+        x.thing(0, 0, 1);
+        x.thing(0, 4, 2);
+        x.thing(0, 7, 4);
+        Check.due("from 0 and 4", x.share(3), 3);
+        Check.due("from 7", x.share(5), 4);
+    }
+
     static void promise14_TAKEN_and_OUT_belong_to_none() {
         LowWater x = lyingTakenOut();
         Check.due("near TAKEN and OUT", x.share(2), 0);

@@ -48,6 +48,79 @@ public final class WholeEdgeTest {
         Check.due("as it was", x.digest(), before);
     }
 
+    static void promise24_it_keeps_MARKS_and_their_hour() {
+        LowWater x = Check.shore("00000000;0;121");
+        x.mark(1, 3);
+        x.then(2);
+        int fits = x.fits();
+        Check.due("THING and HEAVY by EBB", fits, 1 + 4);
+        x.image();
+        x.mark(0, 3);
+        x.then(4);
+        Check.due("THING by FLOOD", x.fits(), 1);
+        x.restore();
+        Check.due("by EBB again", x.fits(), fits);
+        Check.due("two", x.count(6), 2);
+        x.mark(0, 3);
+        x.then(2);
+        Check.due("none in another hour", x.fits(), 0);
+        x.restore();
+        Check.due("the hour again", x.fits(), fits);
+    }
+
+    static void promise24_it_keeps_eight_MARKS() {
+        LowWater x = State.FULL.make();
+        x.image();
+        int fits = x.fits();
+        x.mark(0, 7);
+        x.restore();
+        Check.due("eight", x.count(6), 8);
+        Check.due("fits", x.fits(), fits);
+        LowWater y = Check.shore("00000000;0;1122222");
+        y.mark(0, 3);
+        for (int cell : new int[] {3, 4, 4, 4, 4, 4, 3}) {
+            y.then(cell);
+        }
+        Check.due("eight fit a THING", y.fits(), 1);
+        y.image();
+        y.mark(0, 7);
+        for (int n = 0; n < 7; n++) {
+            y.then(0);
+        }
+        Check.due("none", y.fits(), 0);
+        y.restore();
+        Check.due("eight fit a THING again", y.fits(), 1);
+    }
+
+    static void promise24_it_keeps_KIND_CELL_and_WORTH_of_eight_THINGS() {
+        LowWater x = Check.shore("00000000;0;00");
+        for (int n = 0; n < 8; n++) {
+            x.thing(n % 5, n, 10 + n);
+        }
+        x.image();
+        for (int n = 0; n < 8; n++) {
+            x.take(n);
+        }
+        x.restore();
+        for (int n = 0; n < 8; n++) {
+            Check.due("KIND", x.about(n, 0), n % 5);
+            Check.due("CELL", x.about(n, 1), n);
+            Check.due("WORTH", x.about(n, 2), 10 + n);
+        }
+    }
+
+    static void promise24_it_keeps_THE_BARGE() {
+        LowWater x = State.BARE.make();
+        x.image();
+        x.barge(7);
+        x.restore();
+        Check.due("over none", x.barge(0), -1);
+        x.image();
+        x.barge(7);
+        x.restore();
+        Check.due("over 0", x.barge(-1), 0);
+    }
+
     static void promise24_a_refused_one_keeps_none() {
         LowWater x = new LowWater();
         x.image();

@@ -148,6 +148,18 @@ public final class WouldBeEdgeTest {
         best("another STAIR", two, 3, 1, 9, 4);
     }
 
+    static void promise15_the_same_CELL_or_one_beside_it() {
+        LowWater x = Check.shore("00000000;24;00");
+        x.thing(0, 2, 1);
+        x.thing(0, 4, 5);
+        best("not two up in one hour", x, 2, 1, 1, 2);
+        best("two up in two hours", x, 2, 2, 6, 3);
+        LowWater y = Check.shore("00000000;24;00");
+        y.thing(0, 2, 5);
+        best("not two down in one hour", y, 4, 1, 0, 4);
+        best("two down in two hours", y, 4, 2, 5, 3);
+    }
+
     static void promise15_seven_hours_reach_a_CELL_three_off_not_four() {
         LowWater x = Check.shore("00000000;0;00");
         x.thing(0, 3, 9);
@@ -221,6 +233,18 @@ public final class WouldBeEdgeTest {
         y.thing(0, 2, 9);
         best("not there yet", y, 3, 0, 0, 3);
         best("it comes", y, 3, 1, 9, 3);
+    }
+
+    static void promise15_as_they_lie_now_not_as_they_lay() {
+        LowWater x = Check.shore("00002999;34;0120");
+        x.thing(0, 3, 9);
+        best("it lies in 3", x, 3, 0, 9, 3);
+        best("it lies in 3, as seen from 4", x, 4, 0, 0, 4);
+        x.hour();
+        x.hour();
+        x.hour();
+        best("it lies in 3 no more", x, 3, 0, 0, 3);
+        best("it lies in 4", x, 4, 0, 9, 4);
     }
 
     static void promise15_THE_TIDE_begins_over_again() {
